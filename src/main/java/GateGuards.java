@@ -609,18 +609,19 @@ public final class GateGuards {
     // Orders
 
     private int carryOut(char kind, int first, int second) {
-        switch (kind) {
-            case 'g':
-                return orderGuard(first);
-            case 'x':
-                return orderForgetting(first);
-            case 't':
-                return orderLesson(first, second);
-            case 'd':
-                return orderDay(first);
-            default:
-                return orderVisitor(first, kind == '+');
+        if (kind == 'g') {
+            return orderGuard(first);
         }
+        if (kind == 'x') {
+            return orderForgetting(first);
+        }
+        if (kind == 't') {
+            return orderLesson(first, second);
+        }
+        if (kind == 'd') {
+            return orderDay(first);
+        }
+        return orderVisitor(first, kind == '+');
     }
 
     private int orderGuard(int rate) {

@@ -8,6 +8,7 @@ public final class GuardsAndVisitorsTest {
     public static void main(String[] args) {
         newObject();
         guard();
+        guardBehindRestore();
         rate();
         rateCounts();
         caution();
@@ -50,6 +51,28 @@ public final class GuardsAndVisitorsTest {
         CHECK.thrown("2: a fifth guard of no rate", x, ARGUMENT, () -> x.guard(0));
         CHECK.due("2: four guards", x.account(0), 4);
         CHECK.due("2: four changes", x.account(8), 4);
+    }
+
+    /** A guard told where one stood who is gone has nothing of that one. */
+    private static void guardBehindRestore() {
+        GateGuards x = new GateGuards();
+        x.visitor(1, true);
+        x.visitor(1023, false);
+        x.guard(7);
+        String fresh = Check.gateOf(x);
+        x.undo();
+        x.save();
+        x.guard(64);
+        x.caution(0, 200);
+        x.days(0, 3);
+        x.restore();
+        CHECK.due("2: a guard again", x.guard(7), 0);
+        CHECK.due("2: is a new one", Check.gateOf(x), fresh);
+        x.visitor(2, true);
+        x.day(0);
+        for (int badge = 0; badge < 10; badge++) {
+            CHECK.due("2: its means are of its own days", x.mean(0, badge), x.counted(0, badge) / 64.0f);
+        }
     }
 
     private static void rate() {
