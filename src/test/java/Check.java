@@ -108,6 +108,18 @@ final class Check {
         return all.toString();
     }
 
+    /** The gate, what undoing all that can be undone makes of it one by one, and the snapshot; x is used up by it. */
+    static String pastOf(GateGuards x) {
+        StringBuilder all = new StringBuilder(gateOf(x));
+        String left = outcomeOf(() -> x.undo());
+        while (!left.equals("IllegalStateException")) {
+            all.append("; ").append(left).append(" left").append(gateOf(x));
+            left = outcomeOf(() -> x.undo());
+        }
+        all.append("; snapshot ").append(outcomeOf(() -> x.restore())).append(gateOf(x));
+        return all.toString();
+    }
+
     /** Appends a text to the input. */
     static void put(GateGuards x, String text) {
         for (int i = 0; i < text.length(); i++) {

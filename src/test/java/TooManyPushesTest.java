@@ -25,50 +25,62 @@ public final class TooManyPushesTest {
         {907, 795, -292, 102, 1018, 659, -978, 44, -730, -1023, -97, 989},
         {907, -730, -292, 44, 588, -1023, 989, 795, 102, -97, 1018, 659}};
 
-    private final GateGuards x = new GateGuards();
+    private static final String REFUSED = "UnsupportedOperationException";
+
+    /** How a gate is made. */
+    private interface Maker {
+        GateGuards make();
+    }
+
+    /** A call on a gate. */
+    private interface On {
+        Object call(GateGuards y);
+    }
+
     private final String name;
     private final int sign;
     private final int badge;
+    private final int[][] phases;
+    /** The days that guard 1 of a worn gate can have before one is refused. */
+    private int gone = 0;
+    /** The visitor of that day whose lesson is refused. */
+    private int visitor = 0;
 
-    private TooManyPushesTest(String name, int sign, int badge) {
+    private TooManyPushesTest(String name, int sign, int badge, int[][] phases) {
         this.name = name + ": ";
         this.sign = sign;
         this.badge = badge;
+        this.phases = phases;
     }
 
     public static void main(String[] args) {
-        new TooManyPushesTest("bias up", 1, -1).live(FOR_BIAS);
-        new TooManyPushesTest("bias down", -1, -1).live(FOR_BIAS);
-        new TooManyPushesTest("j up", 1, 9).live(FOR_LAST);
-        new TooManyPushesTest("j down", -1, 9).live(FOR_LAST);
+        new TooManyPushesTest("bias up", 1, -1, FOR_BIAS).live();
+        new TooManyPushesTest("bias down", -1, -1, FOR_BIAS).live();
+        new TooManyPushesTest("j up", 1, 9, FOR_LAST).live();
+        new TooManyPushesTest("j down", -1, 9, FOR_LAST).live();
         CHECK.end();
     }
 
-    private void live(int[][] phases) {
-        x.guard(5);
-        x.guard(64);
-        x.caution(1, 256);
-        boolean isRefused = false;
-        for (int i = 0; i < phases.length && !isRefused; i++) {
-            meet(phases[i]);
-            isRefused = daysUntilRefused();
-        }
-        CHECK.due(name + "it comes to a refusal", isRefused, true);
-        due("19: days", 60000 - 64 * 360 < sign * x.counted(1, badge), true);
-        CHECK.refused(name + "19: days", x, 5, 1, () -> x.days(1, 30));
+    private void live() {
+        findLastDay();
+        findLastLesson();
+        days();
         wouldCalm();
         day();
-        int visitor = lessonsUntilRefused();
-        teach(visitor);
-        run(visitor);
-        room(visitor);
+        teach();
+        run();
+        room();
     }
 
     private void due(String what, Object got, Object want) {
         CHECK.due(name + what, got, want);
     }
 
-    private void meet(int[] visitors) {
+    private static boolean isRefused(Check.Call call) {
+        return Check.outcomeOf(call).equals(REFUSED);
+    }
+
+    private static void meet(GateGuards x, int sign, int[] visitors) {
         while (x.account(1) > 0) {
             x.forget(0);
         }
@@ -77,78 +89,124 @@ public final class TooManyPushesTest {
         }
     }
 
-    private boolean daysUntilRefused() {
-        for (int i = 0; i < 130; i++) {
-            if (Check.outcomeOf(() -> x.days(1, 30)).equals("UnsupportedOperationException")) {
-                return true;
+    /** Guard 1 cannot have 30 days more. */
+    private GateGuards worn() {
+        GateGuards x = new GateGuards();
+        x.guard(5);
+        x.guard(64);
+        x.caution(1, 256);
+        boolean isWorn = false;
+        for (int phase = 0; phase < phases.length && !isWorn; phase++) {
+            meet(x, sign, phases[phase]);
+            for (int i = 0; i < 130 && !isWorn; i++) {
+                isWorn = isRefused(() -> x.days(1, 30));
             }
         }
-        return false;
+        due("it comes to a refusal", isWorn, true);
+        x.save();
+        Check.outcomeOf(() -> x.rate(0, 5));
+        due("33: another reason", Check.reasonOf(x), "4 5");
+        return x;
     }
 
-    private void otherReason() {
-        CHECK.refused(name + "33: another reason", x, 4, 5, () -> x.rate(0, 5));
+    /** Guard 1 cannot have one day more. */
+    private GateGuards dayLess() {
+        GateGuards x = worn();
+        for (int i = 0; i < gone; i++) {
+            x.day(1);
+        }
+        return x;
     }
 
-    private void wouldCalm() {
-        otherReason();
-        CHECK.thrown(name + "20: refused before", x, NoSuchElementException.class, () -> x.wouldCalm(1, 30));
+    /** Guard 1 cannot be taught the visitor. */
+    private GateGuards lessonLess() {
+        GateGuards x = dayLess();
+        for (int i = 0; i < visitor; i++) {
+            x.teach(1, i);
+        }
+        return x;
     }
 
-    private void day() {
-        int gone = 0;
-        while (gone < 30 && !Check.outcomeOf(() -> x.day(1)).equals("UnsupportedOperationException")) {
+    private void findLastDay() {
+        GateGuards x = worn();
+        while (gone < 30 && !isRefused(() -> x.day(1))) {
             gone++;
         }
         due("18: a day before the thirtieth is refused", gone < 30, true);
-        CHECK.refused(name + "18: day", x, 5, 1, () -> x.day(1));
-        CHECK.refused(name + "19: days at once", x, 5, 1, () -> x.days(1, 1));
     }
 
     /** Lives the refused day lesson by lesson. */
-    private int lessonsUntilRefused() {
-        for (int i = 0; i < 12; i++) {
-            int visitor = i;
-            if (Check.outcomeOf(() -> x.teach(1, visitor)).equals("UnsupportedOperationException")) {
-                return visitor;
-            }
+    private void findLastLesson() {
+        GateGuards x = dayLess();
+        while (visitor < 12 && !isRefused(() -> x.teach(1, visitor))) {
+            visitor++;
         }
-        due("17: a lesson of this day is refused", false, true);
-        return 0;
+        due("17: a lesson of this day is refused", visitor < 12, true);
     }
 
-    private void teach(int visitor) {
+    /** The call is refused, and what can be undone, and the snapshot, are then as they were. */
+    private void refused(String what, Maker maker, On on) {
+        GateGuards x = maker.make();
+        CHECK.refused(name + what, x, 5, 1, () -> on.call(x));
+        due(what + ": the past behind it", Check.pastOf(x), Check.pastOf(maker.make()));
+    }
+
+    private void days() {
+        refused("19: thirty days", this::worn, y -> y.days(1, 30));
+        refused("19: a day too much", this::worn, y -> y.days(1, gone + 1));
+        refused("19: one day", this::dayLess, y -> y.days(1, 1));
+        GateGuards x = worn();
+        due("19: as many days as can be had", gone == 0 ? 0 : x.days(1, gone), gone);
+        due("19: the same as day by day", Check.gateOf(x), Check.gateOf(dayLess()));
+    }
+
+    private void wouldCalm() {
+        for (int most : new int[] {30, gone + 1}) {
+            GateGuards x = worn();
+            CHECK.thrown(name + "20: refused before", x, NoSuchElementException.class, () -> x.wouldCalm(1, most));
+            due("20: the past behind it", Check.pastOf(x), Check.pastOf(worn()));
+        }
+    }
+
+    private void day() {
+        refused("18: day", this::dayLess, y -> y.day(1));
+    }
+
+    private void teach() {
+        GateGuards x = lessonLess();
         due("17: the next push is too much", sign * x.counted(1, badge) + 64 > 60000, true);
         due("17: the last was not", sign * x.counted(1, badge) <= 60000, true);
-        otherReason();
-        CHECK.refused(name + "17: teach", x, 5, 1, () -> x.teach(1, visitor));
+        refused("17: teach", this::lessonLess, y -> y.teach(1, visitor));
         due("21: the visitor would push", x.wouldPush(1, visitor), true);
-        int unmoved = -1;
         for (int i = 0; i < 12; i++) {
-            unmoved = x.wouldPush(1, i) ? unmoved : i;
+            if (!x.wouldPush(1, i)) {
+                due("17: without a push nothing is refused", x.teach(1, i), 0);
+            }
         }
-        due("17: without a push nothing is refused", unmoved < 0 ? 0 : x.teach(1, unmoved), 0);
     }
 
-    private void run(int visitor) {
-        Check.put(x, "t0:0;d0;g8;t1:" + visitor + ";x99");
-        String gate = Check.gateOf(x);
-        due("31: a lesson is refused", Check.outcomeOf(() -> x.run()), "UnsupportedOperationException");
+    private void run() {
+        runRefused(this::dayLess, "d0;d1;d9");
+        runRefused(this::lessonLess, "t0:0;d0;g8;t1:" + visitor + ";x99");
+        GateGuards x = lessonLess();
+        Check.put(x, "g8;x99;t1:" + visitor);
+        due("31: an order ahead of it cannot be", Check.outcomeOf(() -> x.run()), "IllegalArgumentException");
+        due("33: the reason stays", Check.reasonOf(x), "4 5");
+    }
+
+    private void runRefused(Maker maker, String text) {
+        GateGuards x = maker.make();
+        Check.put(x, text);
+        due("31: " + text + " is refused", Check.outcomeOf(() -> x.run()), REFUSED);
         due("33: for reason 5", Check.reasonOf(x), "5 1");
-        due("31: nothing is carried out", Check.gateOf(x), gate);
-        otherReason();
-        x.save();
-        for (int i = 0; i < visitor; i++) {
-            x.forget(0);
-        }
-        Check.put(x, "d0;d1;d9");
-        due("31: a day is refused", Check.outcomeOf(() -> x.run()), "UnsupportedOperationException");
-        due("33: for reason 5 again", Check.reasonOf(x), "5 1");
-        x.restore();
+        due("32: it has no error", x.errorPosition(), -1);
+        due("31: the input is empty", x.account(7), 0);
+        due("31: the past behind it", Check.pastOf(x), Check.pastOf(maker.make()));
     }
 
     /** What there is room for may be pushed, up to 60000, but no 64th more. */
-    private void room(int visitor) {
+    private void room() {
+        GateGuards x = lessonLess();
         int room = 60000 - sign * x.counted(1, badge);
         due("17: there is room for less than a push of 64", room >= 0 && room < 64, true);
         x.rate(1, room + 1);
@@ -158,28 +216,36 @@ public final class TooManyPushesTest {
         due("12: counted 60000", x.counted(1, badge), sign * 60000);
         due("11: its bits", x.weightBits(1, badge), Float.floatToIntBits(sign * 937.5f));
         due("35: all is well", x.isWell(), true);
-        eachSet();
+        eachSet(x);
         x.guardLine(1);
         due("28: the line has the number", Check.lineOf(x).contains(sign > 0 ? "60000" : "-60000"), true);
     }
 
-    /** With 60000 counted for the badge those who have it cannot be pushed further, and those without it can be. */
-    private void eachSet() {
+    /** With 60000 counted for the badge those who have it cannot be pushed further; others can be, and these back. */
+    private void eachSet(GateGuards x) {
         int with = 0;
         int without = 0;
+        int back = 0;
         x.save();
         for (int badges = 1; badges <= 1023; badges++) {
-            meet(new int[] {badges});
+            boolean hasIt = badge == -1 || (badges >> badge & 1) == 1;
+            meet(x, sign, new int[] {badges});
             if (x.wouldPush(1, 0)) {
-                boolean hasIt = badge == -1 || (badges >> badge & 1) == 1;
-                String want = hasIt ? "UnsupportedOperationException" : "1";
+                String want = hasIt ? REFUSED : "1";
                 due("17: the set " + badges, Check.outcomeOf(() -> x.teach(1, 0)), want);
                 with += hasIt ? 1 : 0;
                 without += hasIt ? 0 : 1;
             }
             x.restore();
+            meet(x, -sign, new int[] {badges});
+            if (x.wouldPush(1, 0)) {
+                due("17: the set " + badges + " the other way", Check.outcomeOf(() -> x.teach(1, 0)), "1");
+                back += hasIt ? 1 : 0;
+            }
+            x.restore();
         }
         due("17: there were such sets", with > 0, true);
         due("17: and the others", without > 0, badge != -1);
+        due("17: and some the other way", back > 0, true);
     }
 }
