@@ -73,6 +73,11 @@ public final class EdgesOfAnswersTest {
         due("34: mistakes", x.account(6), 48);
         due("34: characters", x.account(7), 60);
         due("34: changes", x.account(8), 8);
+        due("35: isWell", x.isWell(), true);
+        for (int guard = 0; guard < 4; guard++) {
+            x.days(guard, 30);
+            due("35: isWell behind the days of guard " + guard, x.isWell(), true);
+        }
         GateGuards y = twelve(1, false);
         due("34: no friends", y.account(2), 0);
         due("34: foes alone", y.account(3), 12);

@@ -273,15 +273,42 @@ public final class EdgesOfTermsTest {
         meet(x, 1023);
         x.days(0, 30);
         x.guard(64);
+        isAtFirst("another guard", x, 1);
+        x.save();
+        x.caution(1, 256);
+        x.days(1, 3);
+        x.undo();
+        x.undo();
+        x.undo();
+        CHECK.due("at first: again", x.guard(64), 1);
+        isAtFirst("in place of one undone", x, 1);
+        x.restore();
+        isAtFirst("a guard restored", x, 1);
+        GateGuards y = new GateGuards();
+        y.visitor(1023, true);
+        y.save();
+        y.guard(64);
+        y.caution(0, 256);
+        y.days(0, 3);
+        y.restore();
+        y.guard(64);
+        isAtFirst("in place of one whom restore took away", y, 0);
+        y.day(0);
+        for (int badge = 0; badge <= 9; badge++) {
+            CHECK.due("at first: the sum was 0, too, for " + badge, y.mean(0, badge), 1.0f);
+        }
+    }
+
+    private static void isAtFirst(String who, GateGuards x, int guard) {
         for (int badge = -1; badge <= 9; badge++) {
-            CHECK.due("at first: the bits of " + badge, x.weightBits(1, badge), 0);
-            CHECK.due("at first: counted for " + badge, x.counted(1, badge), 0);
+            CHECK.due("at first: " + who + ": the bits of " + badge, x.weightBits(guard, badge), 0);
+            CHECK.due("at first: " + who + ": counted for " + badge, x.counted(guard, badge), 0);
         }
         for (int what = 1; what <= 6; what++) {
-            CHECK.due("at first: number " + what, x.guardOf(1, what), what == 4 ? 1 : 0);
+            CHECK.due("at first: " + who + ": number " + what, x.guardOf(guard, what), what == 4 ? 1 : 0);
         }
-        CHECK.due("at first: the margin", x.margin(1, 1023, false), 0.0f);
-        CHECK.due("at first: the margin by pushes", x.margin(1, 1023, true), 0.0f);
+        CHECK.due("at first: " + who + ": the margin", x.margin(guard, 1023, false), 0.0f);
+        CHECK.due("at first: " + who + ": the margin by pushes", x.margin(guard, 1023, true), 0.0f);
     }
 
     /** "The step of a guard is the rate as a float, divided by 64.0f." */
